@@ -170,11 +170,12 @@ public final class NaiveTest {
             boolean side = shot >= 0 && (bits >> shot % p & 1) == 1 ^ upTo(15) == 0;
             is("seen(" + shot + ", " + side + ")", table.seen(shot, side), naive.seen(shot, side));
         }
+        if (upTo(2) == 0) images();
         int i = near(0, upTo(1) == 0 ? 29 : 3);
         is("fits(-1)", table.fits(-1), naive.fits(-1));
         is("fits(" + i + ")", table.fits(i), naive.fits(i));
         for (int what = 0; what < 2; what++) is("ask(" + what + ")", table.ask(what), naive.ask(what));
-        return 8;
+        return 9;
     }
 
     private int years() {

@@ -657,7 +657,8 @@ public final class PromisesTest {
         due.is("goals", x.told(10) + x.told(11), 0);
         due.is("slide", x.told(25), 8);
         due.is("all rows fit", x.fits(-1), 30);
-        x.seen(5, false);
+        x.seen(8, false);
+        x.seen(3, true);
         due.is("restore(0)", x.restore(0), 1);
         int[] kept = {3, 32, 5, 1, 1, 2};
         for (int what = 0; what < 6; what++) due.is("as kept: told(" + what + ")", x.told(what), kept[what]);

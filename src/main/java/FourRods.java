@@ -1,7 +1,4 @@
-/**
- * Eleven men on four rods: a table of table football, its hands and its ball, evenings told as small texts,
- * and what can be reckoned about them. ../shared/DOC.md says what each call answers.
- */
+/** Eleven men on four rods; ../shared/DOC.md says what each call answers. */
 public final class FourRods {
     public static final int NONE = -6, UNKNOWN = -1, OUTSIDE = -2, STATE = -3, FULL = -4, NO = -5;
     public static final long LOST = -1000000000000000000L;
@@ -17,11 +14,12 @@ public final class FourRods {
     private static final int LAST_SHOT = 60;
     private static final int TENTHS = 10;
 
-    /** A man is told as 10 times his rod and his number; these two stand beside the men. */
+    // One number names a rod and its man, as the document tells them: 10 times the rod and the man.
+    // These two stand beside the men; a goal's tens are the 8 that ends() answers.
     private static final int NOBODY = -1;
     private static final int GOAL = 80;
 
-    /** The kinds of acts; the first eight are numbered as a year draws them. */
+    // The first eight kinds of acts are numbered as a year draws them.
     private static final int GRASP = 0, LET_GO = 1, LESS = 2, MORE = 3, ALONG = 4, OVER = 5, SHOT = 6, THROW_IN = 7;
     private static final int TENTH = 8;
 
@@ -174,7 +172,7 @@ public final class FourRods {
     public long mix(int a, int b, int c, int d, int what, int part) {
         if (!isTenths(a) || !isTenths(b) || !isTenths(c) || !isTenths(d)) return LOST + OUTSIDE;
         if (!isBit(what) || !isBit(part)) return LOST + OUTSIDE;
-        return what == 0 ? Chances.mixedScore(a, b, c, d, part) : Chances.mixedFirst(a, b, c, d, part);
+        return Chances.mixed(a, b, c, d, what, part);
     }
 
     public int hands(int row, int n) {
@@ -267,7 +265,7 @@ public final class FourRods {
         return Rods.isMan(rod, man) ? now.placeOf(rod, man) : OUTSIDE;
     }
 
-    /** Plays the pad beside the table as it is now: whether no sign and no act on it is wrong. */
+    // What is behind the pad is asked, and done, on the same terms, so all of it goes through here.
     private boolean playsThrough() {
         if (pad.faultPlace() != NONE) return false;
         evening.play(now, pad);
@@ -294,7 +292,14 @@ public final class FourRods {
         return 1 << (d + WIDEST_SHOT);
     }
 
-    /** The rods as they are built: whose they are, their men, how far they go. */
+    private static void copyRow(int[] from, int[] to) {
+        if (from == null || to == null) return;
+        for (int i = 0; i < from.length && i < to.length; i++) {
+            to[i] = from[i];
+        }
+    }
+
+    /** The rods as they are built. */
     private static final class Rods {
         private static final int[] SIDES = {0, 0, 1, 0, 1, 0, 1, 1};
         private static final int[] MEN = {1, 2, 3, 5, 5, 3, 2, 1};
@@ -336,8 +341,7 @@ public final class FourRods {
             return side == 0 ? 1 : 6;
         }
 
-        /** The step from a rod to the next one toward the goal that the side shoots at. */
-        static int wayOf(int side) {
+        static int stepToGoalOf(int side) {
             return side == 0 ? 1 : -1;
         }
     }
@@ -365,12 +369,8 @@ public final class FourRods {
 
         void copyFrom(Table other) {
             if (other == null) return;
-            for (int rod = 0; rod < slides.length; rod++) {
-                slides[rod] = other.slideOf(rod);
-            }
-            for (int side = 0; side < scored.length; side++) {
-                scored[side] = other.scoredBy(side);
-            }
+            copyRow(other.slides, slides);
+            copyRow(other.scored, scored);
             heldRods = other.heldRods;
             ballRod = other.ballRod;
             ballMan = other.ballMan;
@@ -453,24 +453,26 @@ public final class FourRods {
             return slideOf(rod) + man * Rods.gapOf(rod);
         }
 
-        /** The least man of a rod who covers a place, or NOBODY. */
         int covererOf(int rod, int place) {
+            int first = slideOf(rod);
+            int gap = Rods.gapOf(rod);
             for (int man = 0; man < Rods.menOf(rod); man++) {
-                if (Math.abs(placeOf(rod, man) - place) <= 1) return man;
+                if (Math.abs(first + man * gap - place) <= 1) return man;
             }
             return NOBODY;
         }
 
-        /** The man of a rod who stands nearest to a place, the least of several. */
         int nearestOf(int rod, int place) {
+            int first = slideOf(rod);
+            int gap = Rods.gapOf(rod);
             int nearest = 0;
             for (int man = 1; man < Rods.menOf(rod); man++) {
-                if (Math.abs(placeOf(rod, man) - place) < Math.abs(placeOf(rod, nearest) - place)) nearest = man;
+                if (Math.abs(first + man * gap - place) < Math.abs(first + nearest * gap - place)) nearest = man;
             }
             return nearest;
         }
 
-        /** Who gets a pass over from a man to another rod of his side, or NOBODY if it can not be. */
+        // NOBODY tells that the pass can not be; one that the other side gets can.
         int overFrom(int rod, int man, int to) {
             int side = Rods.sideOf(rod);
             if (to == rod || !Rods.isOf(to, side)) return NOBODY;
@@ -487,33 +489,41 @@ public final class FourRods {
             return 10 * to + receiver;
         }
 
-        /** Who gets a shot of the man who has the ball, or GOAL. */
         int shotEnd(int d) {
             if (isDead()) return NOBODY;
             int side = Rods.sideOf(ballRod);
-            int place = ballPlace();
+            int place = placeOf(ballRod, ballMan);
             for (int i = 1; i < RODS; i++) {
-                int rod = ballRod + i * Rods.wayOf(side);
+                int rod = ballRod + i * Rods.stepToGoalOf(side);
                 if (Rods.isOf(rod, 1 - side)) {
                     int catcher = covererOf(rod, bounced(place + i * d));
                     if (catcher != NOBODY) return 10 * rod + catcher;
                 }
             }
-            return reachesGoal(d) ? GOAL : 10 * Rods.keeperOf(1 - side);
+            return reachesGoal(place, d) ? GOAL : 10 * Rods.keeperOf(1 - side);
         }
 
-        /** Whether a shot that no rod gets would be a goal. */
-        boolean reachesGoal(int d) {
+        private boolean reachesGoal(int place, int d) {
             int behind = Math.abs(Rods.keeperOf(1 - Rods.sideOf(ballRod)) - ballRod) + 1;
-            int place = bounced(ballPlace() + behind * d);
-            return place >= GOAL_FROM && place <= GOAL_TO;
+            int end = bounced(place + behind * d);
+            return end >= GOAL_FROM && end <= GOAL_TO;
         }
 
-        /** The shots that a rod farther on does not get, as bits. */
-        int shotsPast(int rod) {
+        // Standing tries all slides of two rods, so shots are sets of bits there: those to the goal, those past a rod.
+        int shotsToGoal() {
+            int from = ballPlace();
             int bits = 0;
             for (int d = -WIDEST_SHOT; d <= WIDEST_SHOT; d++) {
-                int place = bounced(ballPlace() + Math.abs(rod - ballRod) * d);
+                if (reachesGoal(from, d)) bits |= shotBit(d);
+            }
+            return bits;
+        }
+
+        int shotsPast(int rod) {
+            int from = ballPlace();
+            int bits = 0;
+            for (int d = -WIDEST_SHOT; d <= WIDEST_SHOT; d++) {
+                int place = bounced(from + Math.abs(rod - ballRod) * d);
                 if (covererOf(rod, place) == NOBODY) bits |= shotBit(d);
             }
             return bits;
@@ -525,7 +535,7 @@ public final class FourRods {
             return round > WIDTH ? 2 * WIDTH - round : round;
         }
 
-        /** Why an act can not be: the least of the seven reasons, 0 if it can. */
+        // The reasons are asked for as the document numbers them, so the first that holds is the least.
         int whyNot(int kind, int rod, int number) {
             if (scoredBy(0) >= GOALS_TO_WIN || scoredBy(1) >= GOALS_TO_WIN) return 1;
             if (isPlayed(kind) ? isDead() : kind == THROW_IN && !isDead()) return 2;
@@ -558,7 +568,7 @@ public final class FourRods {
             return Rods.isMan(ballRod, man) && Math.abs(man - ballMan) == 1;
         }
 
-        /** Does an act that can be. */
+        // Only for an act that can be: nothing is looked at again here.
         void perform(int kind, int rod, int number) {
             switch (kind) {
                 case GRASP: setHeld(rod, true); break;
@@ -584,7 +594,6 @@ public final class FourRods {
             }
         }
 
-        /** Does the act that a year draws by x, if it can be. */
         void tryDrawn(int x) {
             int rod = x % 8;
             int kind = x / 8 % 8;
@@ -649,7 +658,6 @@ public final class FourRods {
             return number;
         }
 
-        /** Where the first sign is that can not stand there, or more must come; NONE if all is well. */
         int faultPlace() {
             rewind();
             for (int i = 0; i < PAD_SIGNS && !isReadOut(); i++) {
@@ -658,7 +666,7 @@ public final class FourRods {
             return NONE;
         }
 
-        /** Reads on by an act; if it is not whole, the place is left at the fault. */
+        // Of an act that is not whole the place is left where the fault is: at a wrong sign, or behind the last one.
         boolean readAct() {
             rod = NONE;
             number = 0;
@@ -710,7 +718,7 @@ public final class FourRods {
         }
     }
 
-    /** An evening played beside the table: what is behind its acts, as far as they can be. */
+    /** An evening, played on a table of its own. */
     private static final class Evening {
         private final Table table = new Table();
         private int acts;
@@ -738,7 +746,6 @@ public final class FourRods {
             return firstGoal;
         }
 
-        /** Plays a pad without a fault. */
         void play(Table start, Pad pad) {
             acts = 0;
             stoppedAt = NONE;
@@ -747,23 +754,19 @@ public final class FourRods {
             if (start == null || pad == null) return;
             table.copyFrom(start);
             pad.rewind();
-            for (int i = 0; i < PAD_SIGNS && stoppedAt == NONE && !pad.isReadOut(); i++) {
+            for (int i = 0; i < PAD_SIGNS && !pad.isReadOut(); i++) {
                 if (!pad.readAct()) return;
-                playAct(pad.kind(), pad.rod(), pad.number());
+                int why = table.whyNot(pad.kind(), pad.rod(), pad.number());
+                if (why != 0) {
+                    stoppedAt = acts;
+                    reason = why;
+                    return;
+                }
+                int before = table.scoredInAll();
+                table.perform(pad.kind(), pad.rod(), pad.number());
+                if (firstGoal == NONE && table.scoredInAll() > before) firstGoal = acts;
+                acts++;
             }
-        }
-
-        private void playAct(int kind, int rod, int number) {
-            int why = table.whyNot(kind, rod, number);
-            if (why != 0) {
-                stoppedAt = acts;
-                reason = why;
-                return;
-            }
-            int before = table.scoredInAll();
-            table.perform(kind, rod, number);
-            if (firstGoal == NONE && table.scoredInAll() > before) firstGoal = acts;
-            acts++;
         }
     }
 
@@ -772,7 +775,6 @@ public final class FourRods {
         private static final int MEN_OF_A_SIDE = 11;
         private static final int WAYS = 2 + RODS;
 
-        /** By 10 times the rod and the man. */
         private final int[] counts = new int[10 * RODS];
 
         int from(int who) {
@@ -798,7 +800,6 @@ public final class FourRods {
             return false;
         }
 
-        /** To whom the least of the first passes of a fewest way goes, NONE if there is none. */
         int firstFrom(Table table, int who) {
             int rest = from(who) - 1;
             if (rest < 0) return NONE;
@@ -810,7 +811,7 @@ public final class FourRods {
             return least;
         }
 
-        /** Who gets a pass: along to the one or the other side by ways 0 and 1, over to a rod by 2 and the rod. */
+        // A man has two ways along, 0 and 1, and one over to each rod, 2 and the rod.
         private static int receiver(Table table, int who, int way) {
             int rod = who / 10;
             int man = who % 10;
@@ -829,7 +830,7 @@ public final class FourRods {
     private static final class Defence {
         private final Table trial = new Table();
 
-        /** The shots that the backs let past, by their slide. */
+        // By the backs' slide, so that their shots are not reckoned anew for every slide of the keeper.
         private final int[] pastBacks = new int[WIDTH + 1];
         private int letIn;
         private int slides;
@@ -847,7 +848,7 @@ public final class FourRods {
             int side = 1 - Rods.sideOf(trial.ballRod());
             int keeper = Rods.keeperOf(side);
             int backs = Rods.backsOf(side);
-            int open = openShots(side);
+            int open = shotsPastOthers(side);
             int lastOfBacks = Rods.lastSlide(backs);
             for (int v = 0; v <= lastOfBacks && v < pastBacks.length; v++) {
                 trial.slideTo(backs, v);
@@ -860,15 +861,11 @@ public final class FourRods {
             }
         }
 
-        /** The shots that would be goals if neither keeper nor backs stood there. */
-        private int openShots(int side) {
-            int bits = 0;
-            for (int d = -WIDEST_SHOT; d <= WIDEST_SHOT; d++) {
-                if (trial.reachesGoal(d)) bits |= shotBit(d);
-            }
-            int way = Rods.wayOf(1 - side);
+        private int shotsPastOthers(int side) {
+            int bits = trial.shotsToGoal();
+            int step = Rods.stepToGoalOf(1 - side);
             for (int i = 1; i < RODS; i++) {
-                int rod = trial.ballRod() + i * way;
+                int rod = trial.ballRod() + i * step;
                 boolean isSlid = rod == Rods.keeperOf(side) || rod == Rods.backsOf(side);
                 if (Rods.isOf(rod, side) && !isSlid) bits &= trial.shotsPast(rod);
             }
@@ -964,30 +961,24 @@ public final class FourRods {
             return a;
         }
 
-        static long mixedScore(int a, int b, int c, int d, int part) {
-            int alone = Math.max(Math.min(a, b), Math.min(c, d));
-            if (!needsBoth(a, b, c, d)) return part(alone, TENTHS, part);
-            int sign = a - b - c + d < 0 ? -1 : 1;
-            return part(sign * (a * d - b * c), TENTHS * sign * (a - b - c + d), part);
+        // Which of the keeper's two stands is told first is no matter; in one of both orders lower is not negative.
+        static long mixed(int a, int b, int c, int d, int what, int part) {
+            boolean isTurned = a - b - c + d < 0;
+            return isTurned ? mixedInOrder(b, a, d, c, what, part) : mixedInOrder(a, b, c, d, what, part);
         }
 
-        static long mixedFirst(int a, int b, int c, int d, int part) {
-            if (!needsBoth(a, b, c, d)) return part(Math.min(a, b) >= Math.min(c, d) ? 1 : 0, 1, part);
-            int sign = a - b - c + d < 0 ? -1 : 1;
-            return part(sign * (d - c), sign * (a - b - c + d), part);
-        }
-
-        /**
-         * Whether a mixture scores more than either gap alone: it does where the keeper's two stands come to
-         * the same, if that is between the gaps and higher than both.
-         */
-        private static boolean needsBoth(int a, int b, int c, int d) {
+        private static long mixedInOrder(int a, int b, int c, int d, int what, int part) {
+            int first = Math.min(a, b);
+            int second = Math.min(c, d);
+            int alone = Math.max(first, second);
             int lower = a - b - c + d;
-            int sign = lower < 0 ? -1 : 1;
-            int first = sign * (d - c);
-            if (first <= 0 || first >= sign * lower) return false;
-            int alone = Math.max(Math.min(a, b), Math.min(c, d));
-            return sign * (a * d - b * c) > alone * sign * lower;
+            int score = a * d - b * c;
+            int chance = d - c;
+            // Only at this chance, where both stands of the keeper come to the same, can a mixture beat either gap alone.
+            boolean needsBoth = chance > 0 && chance < lower && score > alone * lower;
+            if (what == 0) return needsBoth ? part(score, TENTHS * lower, part) : part(alone, TENTHS, part);
+            if (needsBoth) return part(chance, lower, part);
+            return part(first >= second ? 1 : 0, 1, part);
         }
 
         static long isTheFirst(int a, int b, int n, int k, int part) {
@@ -997,7 +988,7 @@ public final class FourRods {
             return part(byFirst, byFirst + bySecond, part);
         }
 
-        /** By how many of the other side's goals, fewer than it needs, come before the last of one's own. */
+        // One's own last goal ends the race, so k is how many of the other side's came before it.
         static long winsRace(int own, int others, int t, int part) {
             long upper = 0;
             long choices = 1;
@@ -1019,7 +1010,7 @@ public final class FourRods {
 
     /** What was seen of his shots, and the rows of sides that fit it. */
     private static final class Sights {
-        /** A row is told as 16 times its length and the bits of its sides. */
+        // All rows of 1 to 4 sides lie between these, each as 16 times its length and its bits.
         private static final int FIRST_ROW = 16;
         private static final int LAST_ROW = 79;
         private static final int ROWS_IN_ALL = 30;
@@ -1049,15 +1040,10 @@ public final class FourRods {
         void copyFrom(Sights other) {
             if (other == null) return;
             count = other.count;
-            for (int i = 0; i < shots.length && i < other.shots.length; i++) {
-                shots[i] = other.shots[i];
-            }
-            for (int i = 0; i < sides.length && i < other.sides.length; i++) {
-                sides[i] = other.sides[i];
-            }
+            copyRow(other.shots, shots);
+            copyRow(other.sides, sides);
         }
 
-        /** Finds the rows that fit, rising: how many. */
         int findRows() {
             found = 0;
             for (int row = FIRST_ROW; row <= LAST_ROW; row++) {
@@ -1073,7 +1059,7 @@ public final class FourRods {
             return i >= 0 && i < found && i < rows.length ? rows[i] : NONE;
         }
 
-        /** Of the rows found: the least of the shots that leave fewest of them at the most. */
+        // This and the next speak of the rows found last.
         int bestShot() {
             int best = 0;
             for (int shot = 1; shot <= LAST_SHOT; shot++) {
@@ -1082,7 +1068,6 @@ public final class FourRods {
             return best;
         }
 
-        /** How many of the rows found a look at a shot leaves at the most. */
         int mostLeft(int shot) {
             int second = 0;
             for (int i = 0; i < found && i < rows.length; i++) {
