@@ -650,6 +650,8 @@ public final class PromisesTest {
         due.is("restore(0)", x.restore(0), STATE);
         due.is("image(0)", x.image(0), 1);
         int there = x.fits(-1);
+        int[] rows = new int[there];
+        for (int i = 0; i < there; i++) rows[i] = x.fits(i);
         Due.write(x, "a(.");
         due.is("restore(1)", x.restore(1), 1);
         int[] fresh = {3, 0, NONE, NONE, 0, 0};
@@ -666,6 +668,7 @@ public final class PromisesTest {
         due.is("goals", x.told(11), 4);
         due.is("slide", x.told(25), 6);
         due.is("the rows fit as they did", x.fits(-1), there);
+        for (int i = 0; i < there; i++) due.is("the same row", x.fits(i), rows[i]);
         x.slide(5, 0);
         due.is("restore(0) again", x.restore(0), 1);
         due.is("what is done later does not touch it", x.told(25), 6);
