@@ -2,16 +2,29 @@
 final class Due {
     private int wrong = 0;
     private int asked = 0;
+    private String subject = "";
+
+    /** What is asked from here on is told as being about this. */
+    void about(String what) {
+        subject = what.isEmpty() ? "" : "[" + what + "] ";
+    }
 
     void is(String call, long got, long want) {
         asked++;
         if (got == want) return;
         wrong++;
-        if (wrong <= 20) System.out.println(call + " answered " + got + ", due is " + want);
+        if (wrong <= 20) System.out.println(subject + call + " answered " + got + ", due is " + want);
     }
 
     void holds(String what, boolean does) {
         is(what, does ? 1 : 0, 1);
+    }
+
+    void same(String what, String got, String want) {
+        asked++;
+        if (got.equals(want)) return;
+        wrong++;
+        if (wrong <= 20) System.out.println(subject + what + " was " + got + ", due is " + want);
     }
 
     /** Wipes the pad and says a text. */

@@ -1,0 +1,29 @@
+import java.io.IOException;
+import java.nio.charset.StandardCharsets;
+import java.nio.file.Files;
+import java.nio.file.Path;
+import java.util.function.Consumer;
+
+/** Sentences of the document that name an edge, each with the test that would fail if it were broken. */
+final class Sentences {
+    private final Due due = new Due();
+    private final String document;
+
+    Sentences() throws IOException {
+        document = onOneLine(Files.readString(Path.of("..", "shared", "DOC.md"), StandardCharsets.UTF_8));
+    }
+
+    void says(String sentence, Consumer<Due> test) {
+        due.about(sentence);
+        due.holds("the document says so", document.contains(onOneLine(sentence)));
+        test.accept(due);
+    }
+
+    void finish() {
+        due.finish();
+    }
+
+    private static String onOneLine(String text) {
+        return text.replaceAll("\\s+", " ");
+    }
+}
