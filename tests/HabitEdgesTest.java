@@ -16,6 +16,7 @@ public final class HabitEdgesTest {
         document.says("FITS: how many (i = -1), the i-th; NONE (i below -1, too).", HabitEdgesTest::noSuchRow);
         document.says("the shot (0 to 60) to look at next, so that, to whichever side, fewest of these are left at the most: the least; how many",
             HabitEdgesTest::asking);
+        document.says("fewest of these are left", HabitEdgesTest::askingAgain);
         document.says("how many (1); NONE: nothing fits. OUTSIDE.", HabitEdgesTest::nothingFits);
         document.says("A YEAR by a seed (0 to 9999) of m ACTS (1 to 99)", HabitEdgesTest::yearNumbers);
         document.says("x becomes (75 x and 74) left over by 65537", HabitEdgesTest::everySeed);
@@ -173,6 +174,17 @@ public final class HabitEdgesTest {
             FourRods x = sighted(sights);
             due.is("after " + sights + ": the shot", x.ask(0), least);
             due.is("after " + sights + ": how many are left", x.ask(1), fewest);
+        }
+    }
+
+    /** Of these: rows that fitted before a sight more are none of them. */
+    private static void askingAgain(Due due) {
+        FourRods x = new FourRods();
+        int[] left = {15, 8, 4, 2, 1};
+        for (int i = 0; i < 5; i++) {
+            due.is("how many are left after " + i, x.ask(1), left[i]);
+            due.is("the shot after " + i, x.ask(0), i < 4 ? i : 0);
+            x.seen(i, i == 0);
         }
     }
 
@@ -376,7 +388,8 @@ public final class HabitEdgesTest {
         Due.write(x, "..");
         x.done();
         x.forget();
-        x.seen(1, true);
+        x.seen(1, false);
+        x.seen(2, true);
         Due.write(x, ".f<1");
         due.is("restore(0)", x.restore(0), 1);
         due.same("all is as it was but the pad", State.of(x), State.of(withPad(kept(), ".f<1")));

@@ -9,6 +9,7 @@ public final class ReckoningEdgesTest {
         Sentences document = new Sentences();
         document.says("(As things are now; hands do not matter.)", ReckoningEdgesTest::asThingsAre);
         document.says("the fewest passes, along and over, none of which another SIDE gets", ReckoningEdgesTest::noneGets);
+        document.says("passes, along and over", ReckoningEdgesTest::overToEach);
         document.says("the BALL comes to a MAN of the SIDE that has it", ReckoningEdgesTest::ofTheSide);
         document.says("how many (0: he has it)", ReckoningEdgesTest::hasIt);
         document.says("to whom first (10 times the ROD and the MAN, the least; NONE: 0); NONE.", ReckoningEdgesTest::toWhomFirst);
@@ -64,6 +65,24 @@ public final class ReckoningEdgesTest {
         due.is("along d first", y.path(5, 0, 1), 31);
         due.is("f's second at 16, four off from both beside it: by f's third at 28", y.path(5, 1, 0), 3);
         due.is("along d the other way first", y.path(5, 1, 1), 33);
+    }
+
+    /** Over from each rod to each other one of its side, the first and the last among them. */
+    private static void overToEach(Due due) {
+        int[] inLine = {20, 4, 8, 4, 4, 8, 4, 20};
+        int[] whoInLine = {0, 1, 1, 2, 2, 1, 1, 0};
+        for (int side = 0; side < 2; side++) {
+            for (int from : Made.RODS_OF[side]) {
+                FourRods x = new FourRods();
+                for (int rod : Made.RODS_OF[side]) x.slide(rod, inLine[rod]);
+                for (int rod : Made.RODS_OF[1 - side]) x.slide(rod, 0);
+                x.ball(from, whoInLine[from]);
+                for (int to : Made.RODS_OF[side]) {
+                    due.is("from " + from + " to " + to, x.path(to, whoInLine[to], 0), to == from ? 0 : 1);
+                    due.is("from " + from + " to " + to, x.path(to, whoInLine[to], 1), to == from ? NONE : 10 * to + whoInLine[to]);
+                }
+            }
+        }
     }
 
     private static void ofTheSide(Due due) {
